@@ -11,6 +11,7 @@ public final class HourTest {
         outsideOnALeg();
         weatherOfTheHour();
         kindsOfLoads();
+        mixedBeginsAnew();
         firmBelowHundred();
         bandsOfLoss();
         lifeEndsAtZero();
@@ -145,6 +146,20 @@ public final class HourTest {
             }
             CHECK.due("ripe after hour " + h, x.tier(0, 2, 4), Math.max(0, 1 - h));
         }
+    }
+
+    private static void mixedBeginsAnew() {
+        ColdLine x = Check.lineAt(150);
+        x.price(1, 1);
+        x.car(0, 10, 150);
+        x.load(0, 40, 1, 100, 0, 150);
+        x.send(0, 1);
+        x.run(5);
+        CHECK.due("twice, once, twice, once, twice", x.tier(0, 0, 3), 60);
+        x.sell(0);
+        x.load(0, 40, 1, 100, 0, 150);
+        x.run(1);
+        CHECK.due("the first hour of the next load", x.tier(0, 0, 3), 90);
     }
 
     private static void firmBelowHundred() {

@@ -8,6 +8,7 @@ public final class MarketTest {
         soldIsEmpty();
         eachSaleTakesFive();
         aDayOfSales();
+        salesADayApart();
         hundredAtMost();
         salesElsewhere();
         worthIsRefused();
@@ -16,7 +17,9 @@ public final class MarketTest {
         worthWithoutTheOthers();
         worthAfterSales();
         best();
+        bestOfEight();
         claimParts();
+        claimIsCut();
         claimOfShortIce();
         claimBeginsAnew();
         CHECK.end();
@@ -119,6 +122,27 @@ public final class MarketTest {
         CHECK.due("23 hours later", secondSaleAfter(23), 95);
         CHECK.due("24 hours later", secondSaleAfter(24), 100);
         CHECK.due("48 hours later", secondSaleAfter(48), 100);
+    }
+
+    /* With every hour of a day for the first sale. */
+    private static void salesADayApart() {
+        for (int first = 0; first < 30; first++) {
+            ColdLine x = lossless();
+            x.price(2, 10);
+            for (int c = 0; c < 4; c++) {
+                x.car(1, 1, 0);
+                x.load(c, 0, 100, 100, 0, 0);
+                x.send(c, 2);
+            }
+            x.run(2 + first);
+            String call = "first sold in hour " + (2 + first);
+            CHECK.due(call, x.sell(0), 100);
+            x.run(23);
+            CHECK.due(call + ", 23 hours later", x.sell(1), 95);
+            x.run(1);
+            CHECK.due(call + ", 24 hours later", x.sell(2), 95);
+            CHECK.due(call + ", and one more", x.sell(3), 90);
+        }
     }
 
     private static void hundredAtMost() {
@@ -297,6 +321,24 @@ public final class MarketTest {
         CHECK.due("refused only by BEYOND", x.status(-7), 0);
     }
 
+    private static void bestOfEight() {
+        ColdLine x = lossless();
+        for (int s = 3; s < 8; s++) {
+            x.station(12);
+        }
+        for (int s = 0; s < 8; s++) {
+            x.late(s, 48);
+            x.price(s, 10 + s);
+        }
+        x.car(0, 1, 0);
+        x.load(0, 0, 100, 100, 0, 0);
+        CHECK.due("the last of eight, the longest way", x.best(0), 7);
+        CHECK.due("its worth", x.worth(0, 7), 170);
+        x.price(8, 99);
+        x.price(7, 0);
+        CHECK.due("the one ahead of it", x.best(0), 6);
+    }
+
     private static ColdLine claimed() {
         ColdLine x = Check.lineAt(150);
         x.car(0, 1, 150);
@@ -330,6 +372,20 @@ public final class MarketTest {
         claims("it comes", x, 0, 6, 15);
         x.run(1);
         claims("it has come", x, 0, 6, 18);
+    }
+
+    private static int claimOfAnHour(int baskets) {
+        ColdLine x = Check.lineAt(100);
+        x.car(0, 1, 100);
+        x.load(0, 1, baskets, 1000, 0, 100);
+        x.send(0, 1);
+        x.run(1);
+        return x.claim(0, 2);
+    }
+
+    private static void claimIsCut() {
+        CHECK.due("333 times 3", claimOfAnHour(333), 0);
+        CHECK.due("334 times 3", claimOfAnHour(334), 1);
     }
 
     private static void claimOfShortIce() {

@@ -16,6 +16,8 @@ public final class RuleHourTest {
         greatestHeat();
         outsideIsOfTheHour();
         notOnALeg();
+        ruleAfterAFault();
+        tenRules();
         CHECK.end();
     }
 
@@ -159,12 +161,34 @@ public final class RuleHourTest {
     }
 
     private static void greatestHeat() {
-        ColdLine x = Check.lineAt(0);
-        x.car(0, 1, -50);
-        x.load(0, 2, 1, 100, 0, -7);
-        Check.ruleOf(x, "vent 1 if heat=-7", 0, 9);
+        for (int t = 0; t < 4; t++) {
+            ColdLine x = Check.lineAt(0);
+            x.car(0, 1, -50);
+            x.load(0, t, 1, 100, 0, -7);
+            Check.ruleOf(x, "vent 1 if heat=-7", 0, 9);
+            x.run(1);
+            CHECK.due("the greatest of its heats is that of tier " + t, x.look(0, 5), 1);
+        }
+    }
+
+    private static void ruleAfterAFault() {
+        ColdLine x = coldCars(1, 100);
+        Check.ruleOf(x, "vent 1 if ice=9 and ice=8 and ice", 0, 9);
         x.run(1);
-        CHECK.due("the greatest of its heats", x.look(0, 5), 1);
+        CHECK.due("a text with a fault does nothing", x.look(0, 5), 0);
+        Check.ruleOf(x, "fill 7", 0, 9);
+        x.run(1);
+        CHECK.due("the next rule has none of its tests", x.look(0, 4), 7);
+    }
+
+    private static void tenRules() {
+        ColdLine x = coldCars(1, 100);
+        for (int r = 0; r < 10; r++) {
+            StringBuilder text = new StringBuilder("fill 1").append(r);
+            Check.ruleOf(x, text.toString(), 0, 10 - r);
+        }
+        x.run(1);
+        CHECK.due("the last of ten", x.look(0, 4), 19);
     }
 
     private static void outsideIsOfTheHour() {
