@@ -1,4 +1,5 @@
 import java.util.ArrayList;
+import java.util.Arrays;
 import java.util.List;
 import java.util.regex.Matcher;
 import java.util.regex.Pattern;
@@ -31,7 +32,7 @@ final class Model {
         final List<Integer> hoursOfSales = new ArrayList<>();
 
         Station() {
-            java.util.Arrays.fill(weather, GAP);
+            Arrays.fill(weather, GAP);
         }
 
         int weatherIn(int hour) {
@@ -258,7 +259,7 @@ final class Model {
         c.number = cars.size();
         c.station = station;
         c.leak = leak;
-        java.util.Arrays.fill(c.heats, heat);
+        Arrays.fill(c.heats, heat);
         cars.add(c);
         return c.number;
     }
@@ -456,7 +457,7 @@ final class Model {
     private int fact(String field, Car c) {
         switch (field) {
             case "ice": return c.ice;
-            case "heat": return java.util.Arrays.stream(c.heats).max().getAsInt();
+            case "heat": return Arrays.stream(c.heats).max().getAsInt();
             case "out": return outside(c);
             case "station": return c.station;
             default: return c.number;
@@ -619,7 +620,7 @@ final class Model {
         }
         int brought = brings(c, c.station, counts[0]);
         stations.get(c.station).hoursOfSales.add(counts[0]);
-        java.util.Arrays.fill(c.loads, null);
+        Arrays.fill(c.loads, null);
         c.come = false;
         counts[7]++;
         counts[8] += brought;
